@@ -750,7 +750,7 @@ public final class DonorParts {
     }
   }
 
-  /** The history: a ring with one place more than can be undone, where a state is noted before it is known to be kept. */
+  /** The history, a ring: in one place more than can be undone, a state is noted before it is known to be kept. */
   private static final class Past {
     int many = 0;
     private int next = 0;

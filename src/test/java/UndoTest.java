@@ -7,6 +7,8 @@ public final class UndoTest {
     sixStates();
     errorsRecordNothing();
     everythingComesBack();
+    eachChangeByItself();
+    whatComesAfterUndoIsNew();
     padAndSlotsStay();
     save();
     restore();
@@ -148,6 +150,51 @@ public final class UndoTest {
     }
     seen[n] = x.scarcest();
     return seen;
+  }
+
+  private static void eachChangeByItself() {
+    DonorParts x = new DonorParts();
+    int[][] before = new int[7][];
+    before[0] = look(x);
+    x.thing(0, 1, 9, 7);
+    before[1] = look(x);
+    x.fixer(63, 2);
+    before[2] = look(x);
+    x.thing(1, 0, 3, 0);
+    before[3] = look(x);
+    x.giveUp(1);
+    before[4] = look(x);
+    x.pass(2);
+    before[5] = look(x);
+    x.drawer(4, 40);
+    for (int i = 5; i >= 0; i--) {
+      Due.is("19: change " + i, x.undo(), i);
+      int[] then = look(x);
+      for (int k = 0; k < then.length; k++) {
+        Due.is("19: before change " + i + ", look " + k, then[k], before[i][k]);
+      }
+    }
+  }
+
+  /** A place that was used before an undo shows nothing of what was in it. */
+  private static void whatComesAfterUndoIsNew() {
+    DonorParts x = new DonorParts();
+    x.drawer(0, 9);
+    Due.write(x, "f0^0;+0:0!9?7;+0!9;t8;+0:01!9?7;t2");
+    Due.is("18: all of it", x.carryOut(), 6);
+    x.undo();
+    x.fixer(6, 5);
+    int[] fixer = {6, 5, NONE, 0, 0, 0, NONE};
+    for (int what = 0; what < fixer.length; what++) {
+      Due.is("19: a new fixer, what " + what, x.ofFixer(0, what), fixer[what]);
+    }
+    for (int thing = 0; thing < 3; thing++) {
+      x.thing(3, 8, 9, 2);
+      int[] due = {3, 8, 9, 2, 0, NONE, 0, 0, thing};
+      for (int what = 0; what < due.length; what++) {
+        Due.is("19: a new thing " + thing + ", what " + what, x.ofThing(thing, what), due[what]);
+      }
+    }
   }
 
   private static void padAndSlotsStay() {
