@@ -1,12 +1,13 @@
 /** All promises: runs of calls of every sort, each answer compared with the model's. */
 public final class ModelTest {
-  private static final int RUNS = 600, CALLS = 511;
+  private static final int RUNS = 600, CALLS = 512;
   private static final String[] PIECES = {"+", "f", "d", "t", ";", ":", "!", "?", "^", "=", "0", "1", "5", "7", "9"};
 
   private static long seed;
   private static DonorParts x;
   private static Model m;
   private static String run;
+  private static int calls;
 
   /** Figures that look mixed but are the same each time. */
   private static int pick(int below) {
@@ -22,7 +23,8 @@ public final class ModelTest {
       x = new DonorParts();
       m = new Model();
       int sort = r % 4;
-      for (int c = 0; c < CALLS; c++) {
+      calls = 0;
+      for (int c = 0; c < CALLS && calls < CALLS; c++) {
         call(sort, c);
       }
     }
@@ -56,6 +58,7 @@ public final class ModelTest {
   }
 
   private static void due(int c, String call, int answer, int due) {
+    calls++;
     Due.is(run + c + ": " + call, answer, due);
   }
 
@@ -134,7 +137,9 @@ public final class ModelTest {
         break;
       default:
         putAll(c, (m.count(8) > 0 && pick(8) > 0 ? ";" : "") + order());
-        due(c, "fault()", x.fault(), m.fault());
+        if (calls < CALLS) {
+          due(c, "fault()", x.fault(), m.fault());
+        }
     }
   }
 
@@ -152,7 +157,7 @@ public final class ModelTest {
   }
 
   private static void putAll(int c, String text) {
-    for (int from = 0; from < text.length(); from += 8) {
+    for (int from = 0; from < text.length() && calls < CALLS; from += 8) {
       String piece = text.substring(from, Math.min(text.length(), from + 8));
       long characters = Due.packed(piece);
       due(c, "put(" + characters + "), which is " + piece, x.put(characters), m.put(characters));

@@ -1,3 +1,5 @@
+import java.util.Arrays;
+
 /** Promises 19 to 21: undo and saving. */
 public final class UndoTest {
   private static final int BAD_VALUE = -2, NOT_POSSIBLE = -5, NONE = -6;
@@ -84,95 +86,81 @@ public final class UndoTest {
     Due.is("19: an error drops no state", x.ofPart(0, 0), 1);
   }
 
-  private static void everythingComesBack() {
-    DonorParts x = new DonorParts();
+  /** With things of three sorts, and one fixer who works. */
+  private static void begin(DonorParts x) {
     x.fixer(63, 2);
     x.thing(0, 1, 9, 7);
     x.thing(1, 2, 3, 0);
     x.thing(2, 4, 1, 0);
     x.pass(1);
-    int[] before = look(x);
-    x.pass(2);
-    same("19: pass", x, before);
-    x.giveUp(1);
-    same("19: giveUp", x, before);
-    x.thing(3, 0, 9, 1);
-    same("19: thing", x, before);
-    x.fixer(63, 5);
-    same("19: fixer", x, before);
-    x.drawer(5, 55);
-    same("19: drawer", x, before);
-    Due.write(x, "+1!5;t9;f0^5;d5=0;+1!0");
-    x.carryOut();
-    same("19: carryOut", x, before);
-    x.save(1);
-    x.drawer(5, 55);
-    x.restore(1);
-    same("21: restore", x, before);
+  }
+
+  private static void everythingComesBack() {
+    comesBack("pass", x -> x.pass(2));
+    comesBack("giveUp", x -> x.giveUp(1));
+    comesBack("thing", x -> x.thing(3, 0, 9, 1));
+    comesBack("fixer", x -> x.fixer(63, 5));
+    comesBack("drawer", x -> x.drawer(5, 55));
+    comesBack("carryOut", x -> {
+      Due.write(x, "+1!5;t9;f0^5;d5=0;+1!0");
+      return x.carryOut();
+    });
+    comesBack("restore", x -> x.restore(0));
+  }
+
+  private static void comesBack(String what, Twins.Call change) {
+    DonorParts x = new DonorParts();
+    x.save(0);
+    begin(x);
+    int[] before = Look.atCafe(x);
+    Due.holds("19: " + what + " is a change", change.on(x) >= 0);
+    Due.holds("19: " + what + " makes a difference", !Arrays.equals(Look.atCafe(x), before));
+    Due.is("19: " + what + ": changes left", x.undo(), 5);
+    same("19: " + what, x, before);
   }
 
   private static void same(String what, DonorParts x, int[] before) {
-    int changes = x.count(9);
-    Due.is(what + ": changes left", x.undo(), changes - 1);
-    if (what.startsWith("21")) {
-      Due.is(what + ": what was before", x.ofPart(5, 0), 55);
-      x.undo();
-    }
-    int[] then = look(x);
+    int[] then = Look.atCafe(x);
     Due.is(what + ": as much", then.length, before.length);
     for (int i = 0; i < Math.min(then.length, before.length); i++) {
       Due.is(what + ": look " + i, then[i], before[i]);
     }
   }
 
-  /** All that can be asked, but for the pad and the history. */
-  private static int[] look(DonorParts x) {
-    int[] seen = new int[30 * 10 + 5 * 7 + 8 * 4 + 9];
-    int n = 0;
-    for (int thing = 0; thing < 30; thing++) {
-      for (int what = 0; what <= 8; what++) {
-        seen[n++] = x.ofThing(thing, what);
-      }
-      seen[n++] = x.doneIn(thing);
-    }
-    for (int fixer = 0; fixer < 5; fixer++) {
-      for (int what = 0; what <= 6; what++) {
-        seen[n++] = x.ofFixer(fixer, what);
-      }
-    }
-    for (int part = 0; part < 8; part++) {
-      for (int what = 0; what <= 3; what++) {
-        seen[n++] = x.ofPart(part, what);
-      }
-    }
-    for (int what = 0; what <= 7; what++) {
-      seen[n++] = x.count(what);
-    }
-    seen[n] = x.scarcest();
-    return seen;
-  }
-
   private static void eachChangeByItself() {
     DonorParts x = new DonorParts();
-    int[][] before = new int[7][];
-    before[0] = look(x);
-    x.thing(0, 1, 9, 7);
-    before[1] = look(x);
-    x.fixer(63, 2);
-    before[2] = look(x);
-    x.thing(1, 0, 3, 0);
-    before[3] = look(x);
-    x.giveUp(1);
-    before[4] = look(x);
-    x.pass(2);
-    before[5] = look(x);
-    x.drawer(4, 40);
+    for (int i = 0; i < 6; i++) {
+      changeNumber(i, x);
+    }
     for (int i = 5; i >= 0; i--) {
       Due.is("19: change " + i, x.undo(), i);
-      int[] then = look(x);
-      for (int k = 0; k < then.length; k++) {
-        Due.is("19: before change " + i + ", look " + k, then[k], before[i][k]);
+      DonorParts y = new DonorParts();
+      for (int k = 0; k < i; k++) {
+        changeNumber(k, y);
       }
+      same("19: before change " + i, x, Look.atCafe(y));
+    }
+  }
+
+  private static void changeNumber(int number, DonorParts x) {
+    switch (number) {
+      case 0:
+        x.thing(0, 1, 9, 7);
+        break;
+      case 1:
+        x.fixer(63, 2);
+        break;
+      case 2:
+        x.thing(1, 0, 3, 0);
+        break;
+      case 3:
+        x.giveUp(1);
+        break;
+      case 4:
+        x.pass(2);
+        break;
+      default:
+        x.drawer(4, 40);
     }
   }
 
@@ -246,17 +234,14 @@ public final class UndoTest {
     x.pass(1);
     x.save(1);
     Due.is("21: not the other slot", x.restore(0), NOT_POSSIBLE);
-    int[] before = look(x);
+    int[] before = Look.atCafe(x);
     x.thing(1, 2, 9, 2);
     x.fixer(3, 3);
     x.pass(5);
     x.drawer(3, 30);
     Due.write(x, "t1");
     Due.is("21: one thing", x.restore(1), 1);
-    int[] then = look(x);
-    for (int i = 0; i < before.length; i++) {
-      Due.is("21: look " + i, then[i], before[i]);
-    }
+    same("21: restore", x, before);
     Due.is("21: the pad stays", x.count(8), 2);
     Due.is("21: the history stays", x.count(9), 6);
   }
