@@ -14,9 +14,9 @@ public final class RoomTest {
     upToTheLastLook();
     run(0);
     for (int sort = 0; sort < 16; sort++) {
-      long before = THREADS.getThreadAllocatedBytes(Thread.currentThread().getId());
+      long before = THREADS.getCurrentThreadAllocatedBytes();
       run(sort);
-      long made = THREADS.getThreadAllocatedBytes(Thread.currentThread().getId()) - before;
+      long made = THREADS.getCurrentThreadAllocatedBytes() - before;
       Due.holds("a run of the sort " + sort + " makes " + made + " bytes", made > 0 && made <= MOST_BYTES);
     }
     Due.end();
