@@ -4,20 +4,23 @@ import java.lang.management.ManagementFactory;
 /** An object answers up to its 512th call, and its calls make next to nothing: all of a run shares one room. */
 public final class RoomTest {
   private static final int CALLS = 512, NONE = -6;
-  private static final long MOST_BYTES = 60_000;
+  private static final long MOST_AT_FIRST = 60_000, MOST_BY_CALLS = 1_000;
 
   private static final ThreadMXBean THREADS = (ThreadMXBean) ManagementFactory.getThreadMXBean();
-  private static final DonorParts[] KEPT = new DonorParts[1];
 
   public static void main(String[] args) {
     upToTheLastCall();
     upToTheLastLook();
-    run(0);
     for (int sort = 0; sort < 16; sort++) {
       long before = THREADS.getCurrentThreadAllocatedBytes();
-      run(sort);
-      long made = THREADS.getCurrentThreadAllocatedBytes() - before;
-      Due.holds("a run of the sort " + sort + " makes " + made + " bytes", made > 0 && made <= MOST_BYTES);
+      DonorParts x = full();
+      long atFirst = THREADS.getCurrentThreadAllocatedBytes();
+      for (int call = 37; call <= CALLS; call++) {
+        dear(x, sort, call);
+      }
+      long then = THREADS.getCurrentThreadAllocatedBytes();
+      Due.holds("an object of " + (atFirst - before) + " bytes", atFirst - before <= MOST_AT_FIRST);
+      Due.holds("calls of the sort " + sort + " make " + (then - atFirst) + " bytes", then - atFirst <= MOST_BY_CALLS);
     }
     Due.end();
   }
@@ -43,10 +46,9 @@ public final class RoomTest {
     Due.is("call 512", x.withFixer(1, 1, 300), 1);
   }
 
-  /** A run of 512 calls, most of them of one sort. */
-  private static void run(int sort) {
+  /** With 36 calls behind it: four fixers, thirty things, and both slots used. */
+  private static DonorParts full() {
     DonorParts x = new DonorParts();
-    KEPT[0] = x;
     for (int i = 0; i < 4; i++) {
       x.fixer(63 >> i, i);
     }
@@ -54,9 +56,8 @@ public final class RoomTest {
       x.thing(i % 6, 7 << i % 6, 99, 7);
     }
     x.save(0);
-    for (int call = 35; call < CALLS; call++) {
-      dear(x, sort, call);
-    }
+    x.save(1);
+    return x;
   }
 
   private static int dear(DonorParts x, int sort, int call) {
