@@ -1,3 +1,5 @@
+import java.util.Arrays;
+
 /**
  * The numbers that the document lets grow, where they are large: what is counted "so far" over thirty things, five
  * fixers at work at once, things with high numbers. The sentence stands above each test.
@@ -17,6 +19,11 @@ public final class ManyTest {
     aLongQueue();
     manyMissing();
     manyRepairedInWhatIf();
+    manyMinutesInWhatIf();
+    mostMinutesInWhatIf();
+    aCrowdIsUndone();
+    aCrowdIsRestored();
+    aCrowdInWhatIf();
     Due.end();
   }
 
@@ -235,6 +242,141 @@ public final class ManyTest {
         Due.is("of the care " + care, x.withFixer(63, care, before + 1), before + (passes ? 1 : 0));
       }
       Due.is("the best care", x.bestCare(before + 1), before % 3 == 0 ? 1 : 0);
+    }
+  }
+
+  /** 13: "Tells how many things would be repaired in some minutes", 14: "would let the most things be repaired in some minutes": three minutes a thing. */
+  private static void manyMinutesInWhatIf() {
+    DonorParts x = withThings(THINGS, 0, 7);
+    for (int part = 0; part < 3; part++) {
+      x.drawer(part, 99);
+    }
+    for (int minutes = 1; minutes <= 120; minutes++) {
+      Due.is("repaired in " + minutes, x.withFixer(1, 5, minutes), Math.min(minutes / 3, THINGS));
+    }
+    DonorParts y = withThings(THINGS - 1, 0, 7);
+    for (int part = 0; part < 3; part++) {
+      y.drawer(part, 99);
+    }
+    y.thing(0, 0, 99, 1);
+    // the last thing is tested in minute 87, where the cares 0, 3, 6 and 9 fail, and needs two minutes more then
+    Due.is("87 minutes", y.bestCare(87), 0);
+    Due.is("88 minutes", y.bestCare(88), 1);
+    Due.is("90 minutes", y.bestCare(90), 0);
+  }
+
+  /** 13: "in some minutes": a thing that is taken in its last minute, and whose repair takes the longest, is done in 108. */
+  private static void mostMinutesInWhatIf() {
+    DonorParts x = new DonorParts();
+    for (int part = 0; part < 3; part++) {
+      x.drawer(part, 99);
+    }
+    x.thing(0, 7, 99, 7);
+    // of these ten, five are given up in 10 minutes and five repaired in 8, by turns; then 3, 3 and 2 minutes
+    for (int i = 0; i < 10; i++) {
+      x.thing(0, 7, 98, 7);
+    }
+    x.thing(0, 7, 98, 0);
+    x.thing(0, 7, 98, 0);
+    x.thing(0, 3, 98, 0);
+    Due.is("up to the minute before", x.withFixer(1, 0, 107), 8);
+    Due.is("with the last minute", x.withFixer(1, 0, 108), 9);
+    Due.is("in many minutes", x.withFixer(1, 0, 300), 9);
+  }
+
+  /** Five fixers at work, and thirty things that wait, are being repaired, are repaired, stripped, or left. */
+  private static DonorParts crowd() {
+    DonorParts x = new DonorParts();
+    for (int part = 0; part < 8; part++) {
+      x.drawer(part, part == 4 ? 0 : 4);
+    }
+    for (int i = 0; i < THINGS; i++) {
+      int kind = i % 6;
+      x.thing(kind, (7 - i % 7) << kind, 1 + 7 * i % 20, i % 8);
+    }
+    x.giveUp(28);
+    int[] kinds = {1, 2, 12, 48, 63};
+    for (int i = 0; i < FIXERS; i++) {
+      x.fixer(kinds[i], 2 * i);
+    }
+    x.pass(6);
+    return x;
+  }
+
+  private static void isACrowd(DonorParts x) {
+    for (int what = 3; what <= 7; what++) {
+      Due.holds("some that are " + (what - 3), x.count(what) > 0);
+    }
+    int atWork = 0;
+    for (int i = 0; i < FIXERS; i++) {
+      atWork += x.ofFixer(i, 2) == NONE ? 0 : 1;
+    }
+    Due.holds("all fixers are at work", atWork == FIXERS);
+  }
+
+  /** 19: "everything except the pad, the slots and the history is as it was before it". */
+  private static void aCrowdIsUndone() {
+    isACrowd(crowd());
+    int[] due = Look.atCafe(crowd());
+    for (int minutes = 1; minutes <= 9; minutes++) {
+      DonorParts x = crowd();
+      x.pass(minutes);
+      Due.is("undone", x.undo(), 5);
+      Due.holds("all of the crowd is undone", Arrays.equals(Look.atCafe(x), due));
+      DonorParts y = crowd();
+      x.pass(9);
+      y.pass(9);
+      Due.holds("and it goes on as it would", Arrays.equals(firstNumbers(x), firstNumbers(y)));
+    }
+  }
+
+  /** 20, 21: "Saves everything except the pad, the history and the slots", "Restores what was saved last in a slot". */
+  private static void aCrowdIsRestored() {
+    int[] due = Look.atCafe(crowd());
+    for (int slot = 0; slot < 2; slot++) {
+      DonorParts x = crowd();
+      x.save(slot);
+      x.pass(30);
+      x.drawer(0, 77);
+      Due.is("thirty things", x.restore(slot), THINGS);
+      Due.holds("all of the crowd is restored", Arrays.equals(Look.atCafe(x), due));
+      DonorParts y = crowd();
+      x.pass(9);
+      y.pass(9);
+      Due.holds("and it goes on as it would", Arrays.equals(firstNumbers(x), firstNumbers(y)));
+    }
+  }
+
+  /** What the fixers and the cafe as a whole show; an object is asked 512 times at most. */
+  private static int[] firstNumbers(DonorParts x) {
+    int[] seen = new int[43];
+    int many = 0;
+    for (int fixer = 0; fixer < FIXERS; fixer++) {
+      for (int what = 0; what <= 6; what++) {
+        seen[many] = x.ofFixer(fixer, what);
+        many++;
+      }
+    }
+    for (int what = 0; what <= 7; what++) {
+      seen[many] = x.count(what);
+      many++;
+    }
+    return seen;
+  }
+
+  /** 12: "Tells in how many minutes a thing will be gone, stripped, or left with by its owner.": and in none before. */
+  private static void aCrowdInWhatIf() {
+    DonorParts x = crowd();
+    int[] told = new int[THINGS];
+    for (int thing = 0; thing < THINGS; thing++) {
+      told[thing] = x.doneIn(thing);
+      Due.is("0 if it is so", told[thing] == 0 ? 1 : 0, x.ofThing(thing, 4) >= 2 ? 1 : 0);
+    }
+    for (int minute = 1; minute <= 9; minute++) {
+      x.pass(1);
+      for (int thing = 0; thing < THINGS; thing++) {
+        Due.is("it is so of " + thing + " behind " + minute, x.ofThing(thing, 4) >= 2 ? 1 : 0, told[thing] <= minute ? 1 : 0);
+      }
     }
   }
 }
