@@ -364,19 +364,25 @@ public final class ManyTest {
     return seen;
   }
 
-  /** 12: "Tells in how many minutes a thing will be gone, stripped, or left with by its owner.": and in none before. */
+  /** 12: "Tells in how many minutes a thing will be gone, stripped, or left with by its owner (0 if it is so)": and in none before. */
   private static void aCrowdInWhatIf() {
-    DonorParts x = crowd();
-    int[] told = new int[THINGS];
     for (int thing = 0; thing < THINGS; thing++) {
-      told[thing] = x.doneIn(thing);
-      Due.is("0 if it is so", told[thing] == 0 ? 1 : 0, x.ofThing(thing, 4) >= 2 ? 1 : 0);
-    }
-    for (int minute = 1; minute <= 9; minute++) {
-      x.pass(1);
-      for (int thing = 0; thing < THINGS; thing++) {
-        Due.is("it is so of " + thing + " behind " + minute, x.ofThing(thing, 4) >= 2 ? 1 : 0, told[thing] <= minute ? 1 : 0);
+      DonorParts x = crowd();
+      int told = x.doneIn(thing);
+      Due.is("0 if it is so of " + thing, told == 0 ? 1 : 0, isSo(x, thing));
+      if (told > 1) {
+        x.pass(told - 1);
+        Due.is("not yet so of " + thing, isSo(x, thing), 0);
       }
+      if (told > 0) {
+        x.pass(1);
+        Due.is("so of " + thing, isSo(x, thing), 1);
+      }
+      Due.is("told of " + thing + " then", x.doneIn(thing), 0);
     }
+  }
+
+  private static int isSo(DonorParts x, int thing) {
+    return x.ofThing(thing, 4) >= 2 ? 1 : 0;
   }
 }
